@@ -1252,13 +1252,17 @@ public final class OracleTest {
         }
 
         void play() {
-            int style = round % 4;
+            int style = round % 6;
             if (style == 0) {
                 playDiagram(false);
             } else if (style == 1) {
                 playDiagram(true);
+            } else if (style == 2) {
+                playGreatDiagram();
+            } else if (style == 3) {
+                playGreatMaps();
             }
-            for (int g = 0; g < 6 && style >= 2; g++) {
+            for (int g = 0; g < 6 && style >= 4; g++) {
                 drawGroup(g);
             }
             while (left > 0 && goesOn) {
@@ -1349,7 +1353,7 @@ public final class OracleTest {
         void step(int style) {
             int f = about(0, 7);
             int g = about(0, 5);
-            switch (random.nextInt(style < 2 ? 44 : 40)) {
+            switch (random.nextInt(style < 3 ? 44 : 40)) {
                 case 0: if (random.nextInt(4) == 0) { drawGroup(draw(0, 5)); } break;
                 case 1: if (random.nextInt(3) == 0) { ask("relation", g, about(-9, 9), about(-9, 9), about(-9, 9)); } break;
                 case 2: ask("groupIs", g, about(0, 3)); break;
@@ -1549,6 +1553,94 @@ public final class OracleTest {
             }
             for (int i = 0; i < 60; i++) {
                 askConnected();
+            }
+        }
+
+        int sign() {
+            return random.nextBoolean() ? 1 : -1;
+        }
+
+        /** A map that has an inverse, with numbers as great as a table may have, by way of maps 6 and 7. */
+        void drawInvertible(int f, int g, int h) {
+            for (int tries = 0; tries < 8; tries++) {
+                ask("map", 6, g, g);
+                ask("map", 7, g, h);
+                for (int i = 0; i < 3; i++) {
+                    for (int j = 0; j < 3; j++) {
+                        int v = i == j ? sign() : draw(5, tries < 5 ? 9 : 6) * sign();
+                        if (i >= j) {
+                            ask("entry", 6, i, j, v);
+                        }
+                        if (i <= j) {
+                            ask("entry", 7, i, j, i == j ? 1 : v);
+                        }
+                    }
+                }
+                feed("g.h");
+                if (ask("text", f) == 1) {
+                    return;
+                }
+            }
+        }
+
+        void drawGreat(int f, int g, int h) {
+            int n = model.all.groups[g].n;
+            int m = model.all.groups[h].n;
+            for (int t = 6; t < 8; t++) {
+                ask("map", t, g, h);
+                for (int i = 0; i < n; i++) {
+                    for (int j = 0; j < m; j++) {
+                        ask("entry", t, i, j, random.nextInt(3) == 0 ? draw(-9, 9) : draw(7, 9) * sign());
+                    }
+                }
+            }
+            feed(random.nextInt(4) == 0 ? "9g" : "9g+2h");
+            ask("text", f);
+        }
+
+        void playGreatDiagram() {
+            int[] sizes = {draw(0, 1), 3, 3, 3, 3, 0};
+            for (int g = 0; g < 6; g++) {
+                ask("group", g, sizes[g]);
+            }
+            ask("map", 0, 0, 1);
+            drawInvertible(1, 1, 2);
+            drawInvertible(2, 3, 4);
+            ask("map", 3, 4, 5);
+            ask("map", 4, 0, 3);
+            drawGreat(5, 1, 4);
+            ask("map", 6, 2, 5);
+            ask("sheet", 0, 0, 7);
+            for (int j = 0; j < 7; j++) {
+                Call c = new Call("put", 0, j);
+                c.value = j;
+                ask(c);
+            }
+            for (int i = 0; i < 40; i++) {
+                ask("connected", 0, 0, draw(-999, 999), draw(-999, 999), 999 * sign(), draw(0, 2));
+            }
+            for (int i = 0; i < 60; i++) {
+                ask("whence", draw(0, 7), draw(-999, 999), 999 * sign(), 999 * sign(), draw(0, 2));
+            }
+        }
+
+        void playGreatMaps() {
+            for (int g = 0; g < 6; g++) {
+                ask("group", g, random.nextInt(3) == 0 ? draw(1, 3) : 3);
+            }
+            for (int f = 0; f < 6; f++) {
+                drawGreat(f, draw(0, 5), draw(0, 5));
+            }
+            for (int g = 0; g < 6; g++) {
+                for (int r = draw(0, 2); r > 0; r--) {
+                    ask("relation", g, draw(-9, 9), draw(-9, 9), draw(7, 9) * sign());
+                }
+            }
+            for (int i = 0; i < 100; i++) {
+                int f = draw(0, 7);
+                ask("whence", f, draw(-999, 999), 999 * sign(), draw(-9, 9), draw(0, 2));
+                ask("part", f, draw(0, 2), draw(-1, 2));
+                ask("mapIs", f, draw(2, 4));
             }
         }
 
