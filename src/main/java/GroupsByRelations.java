@@ -37,11 +37,11 @@ public final class GroupsByRelations {
     private boolean isKept = false;
     private final History history = new History();
     private final TextReader reader = new TextReader();
+    private final Diagram rowsOfMaps = new Diagram();
     private final Sheet[] sheets = new Sheet[SHEETS];
     private final Shelf[] shelves = new Shelf[SHELVES];
     private final MapWork work = new MapWork();
     private final MapWork nextWork = new MapWork();
-    private final Diagram rowsOfMaps = new Diagram(work, nextWork);
     private final Lattice nothing = new Lattice();
     private final Lattice wider = new Lattice();
     private final Rings rings = new Rings();
@@ -792,7 +792,10 @@ public final class GroupsByRelations {
         void fillNothing(int g, Lattice lattice) {
             lattice.clear(generators[g]);
             for (int r = 0; r < relationCounts[g]; r++) {
-                lattice.insertInts(relations, (g * MOST_RELATIONS + r) * SIZE);
+                for (int j = 0; j < SIZE; j++) {
+                    lattice.coming[j] = relations[(g * MOST_RELATIONS + r) * SIZE + j];
+                }
+                lattice.insertComing();
             }
         }
 
@@ -937,7 +940,7 @@ public final class GroupsByRelations {
      */
     static final class Lattice {
         private final long[][] rows = new long[WIDEST][WIDEST];
-        private final long[] coming = new long[WIDEST];
+        final long[] coming = new long[WIDEST];
         int width = 0;
 
         void clear(int newWidth) {
@@ -947,19 +950,13 @@ public final class GroupsByRelations {
             }
         }
 
-        void insertInts(int[] numbers, int start) {
-            for (int j = 0; j < width; j++) {
-                coming[j] = numbers[start + j];
-            }
-            insertComing();
-        }
-
         void insert(long[] row) {
             System.arraycopy(row, 0, coming, 0, width);
             insertComing();
         }
 
-        private void insertComing() {
+        /** The coming row, which is used up, is of the lattice then. */
+        void insertComing() {
             for (int k = 0; k < width; k++) {
                 reduceFrom(coming, k);
                 if (coming[k] != 0 && rows[k][k] == 0) {
@@ -1267,7 +1264,7 @@ public final class GroupsByRelations {
 
     /** A MAP with the lattices that it makes. load() comes first, then, if it is WELL, workOut(). */
     static final class MapWork {
-        final Lattice source = new Lattice();
+        private final Lattice source = new Lattice();
         final Lattice target = new Lattice();
         final Lattice reach = new Lattice();
         final Lattice kernel = new Lattice();
@@ -1357,17 +1354,12 @@ public final class GroupsByRelations {
         private static final int F = 0, E = 1, F2 = 2, E2 = 3, P = 4, Q = 5, R = 6;
 
         private final int[] maps = new int[LENGTH];
-        private final MapWork work;
-        private final MapWork nextWork;
+        private final MapWork work = new MapWork();
+        private final MapWork nextWork = new MapWork();
         private final long[] start = new long[WIDEST];
         private final long[] middle = new long[WIDEST];
         private final long[] end = new long[WIDEST];
         private final long[] otherEnd = new long[WIDEST];
-
-        Diagram(MapWork work, MapWork nextWork) {
-            this.work = work;
-            this.nextWork = nextWork;
-        }
 
         /** False, if one is no MAP, or they do not go from GROUP to GROUP as they must. */
         boolean read(State state, long[] items, int first) {
@@ -1411,14 +1403,11 @@ public final class GroupsByRelations {
         }
 
         private boolean rowIsExact(State state, int first, int second) {
-            prepare(work, state, first);
-            prepare(nextWork, state, second);
+            work.load(state, maps[first]);
+            work.workOut(state, maps[first]);
+            nextWork.load(state, maps[second]);
+            nextWork.workOut(state, maps[second]);
             return work.reach.isAs(nextWork.kernel);
-        }
-
-        private void prepare(MapWork wanted, State state, int m) {
-            wanted.load(state, maps[m]);
-            wanted.workOut(state, maps[m]);
         }
 
         private boolean waysAgree(State state, int first, int then, int otherFirst, int otherThen) {
@@ -1451,18 +1440,21 @@ public final class GroupsByRelations {
             if (!work.target.swallows(end)) {
                 return false;
             }
-            prepare(work, state, E);
+            work.load(state, maps[E]);
+            work.workOut(state, maps[E]);
             if (!work.goBack(row)) {
                 return false;
             }
             state.mapRow(maps[Q], row, end);
             System.arraycopy(end, 0, row, 0, SIZE);
-            prepare(work, state, F2);
+            work.load(state, maps[F2]);
+            work.workOut(state, maps[F2]);
             work.target.reduce(row);
             if (!work.goBack(row)) {
                 return false;
             }
-            prepare(work, state, P);
+            work.load(state, maps[P]);
+            work.workOut(state, maps[P]);
             work.reach.reduce(row);
             return true;
         }
