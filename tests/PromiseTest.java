@@ -1074,6 +1074,9 @@ public final class PromiseTest {
         due(30, "-128", x.item(0, 0, 0), -128);
         due(29, "ints", x.put(1, 0, 0x1FFFFFFFEL), 1);
         due(30, "an int", x.item(1, 1, 0), -2);
+        x.group(0, 1);
+        due(29, "an int is narrowed as it is put", x.put(1, 0, 0x100000001L) * 10 + x.span(0, 1, 0, 1), 10);
+        x.put(1, 0, 0x1FFFFFFFEL);
         due(29, "longs", x.put(2, 1, 0x580000001L), 1);
         due(30, "lowest 32 bits", x.item(2, 2, 1), Integer.MIN_VALUE + 1);
         due(29, "sheet 4", x.put(4, 0, 0), -1);
