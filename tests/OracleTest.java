@@ -784,7 +784,9 @@ public final class OracleTest {
         void look(int sheet, int sort, int i, int n) {
             need(sheets[sheet] == null || sorts[sheet] == sort, -13);
             need(sheets[sheet] != null, -11);
-            need(i >= 0 && (long) i + n <= sheets[sheet].length, -12);
+            for (long place = i; place < (long) i + n; place++) {
+                need(place >= 0 && place < sheets[sheet].length, -12);
+            }
         }
 
         long groupIs(Group g, int what) {
@@ -1413,6 +1415,7 @@ public final class OracleTest {
             }
             for (int i = 0; i < 3; i++) {
                 ask("span", about(0, 5), draw(0, 3), about(0, 6), about(0, 9));
+                ask("span", about(0, 5), draw(0, 3), about(-2, 42), draw(0, 3) == 0 ? 1 : 0);
             }
         }
 

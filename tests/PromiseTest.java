@@ -428,6 +428,26 @@ public final class PromiseTest {
         x.sheet(0, 1, 0);
         due(11, "of an empty sheet", x.span(0, 0, 0, 0), 1);
         due(11, "one of an empty sheet", x.span(0, 0, 0, 1), -12);
+        spanOfNone();
+    }
+
+    /** With n 0 no place is asked for; but the SHEET, and the sort of it, still are. */
+    private static void spanOfNone() {
+        GroupsByRelations x = new GroupsByRelations();
+        ringOf(x, 0, 6);
+        int[] places = {Integer.MIN_VALUE, -1, 0, 1, 2, 3, 4, 40, 41, Integer.MAX_VALUE};
+        for (int place : places) {
+            x.sheet(0, -1, 0);
+            due(11, "none of a missing sheet, place " + place, x.span(0, 0, place, 0), -11);
+            x.sheet(0, 0, 3);
+            due(11, "none of bytes, place " + place, x.span(0, 0, place, 0), -13);
+            x.sheet(0, 1, 0);
+            due(11, "none of an empty sheet, place " + place, x.span(0, 0, place, 0), 1);
+            ints(x, 0, 100, 100, 100);
+            due(11, "none of three, place " + place, x.span(0, 0, place, 0), 1);
+            due(11, "none of no generators, place " + place, x.span(5, 0, place, 0), 1);
+            due(11, "one of three, place " + place, x.span(0, 0, place, 1), place == 0 ? -1 : -12);
+        }
     }
 
     // ------------------------------------------------------------------ maps

@@ -1690,7 +1690,7 @@ public final class GroupsByRelations {
             Arrays.fill(items, 0L);
         }
 
-        /** Why n items of a sort from a place on can't be had, or 0. */
+        /** Why n items of a sort from a place on can't be had, or 0; of no items none lies outside, at any place. */
         int refusal(int wanted, int place, int n) {
             if (sort == NO_SORT) {
                 return MISSING;
@@ -1698,7 +1698,8 @@ public final class GroupsByRelations {
             if (sort != wanted) {
                 return UNLIKE;
             }
-            return place < 0 || place > length - n ? OUTSIDE : 0;
+            boolean isOutside = n > 0 && (place < 0 || place > length - n);
+            return isOutside ? OUTSIDE : 0;
         }
 
         boolean areWithin(int place, int n, long range) {
