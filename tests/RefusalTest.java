@@ -8,12 +8,11 @@ import java.util.List;
  */
 public final class RefusalTest {
     /** A state in which nothing is as at first; 0 to 6 are MAPS, of which only 2 is not WELL, 7 is none. */
-    private static final String RICH = "group 0 2; relation 0 6 0 0; relation 0 0 4 0; group 1 1; relation 1 8 0 0;"
-        + "group 2 3; relation 2 2 0 0; relation 2 0 3 0; relation 2 0 0 5; relation 2 2 3 5; group 4 1; group 5 2;"
-        + "map 0 1 1; entry 0 0 0 2; map 1 0 1; entry 1 0 0 4; entry 1 1 0 2; map 2 1 0; entry 2 0 0 1; entry 2 0 1 1;"
-        + "keep; map 3 4 5; entry 3 0 0 1; entry 3 0 1 2; map 4 5 4; entry 4 0 0 2; entry 4 1 0 -1; map 5 5 5; map 6 4 4;"
-        + "move 0 0; move 1 -2; move 2 3; move 3 5;"
-        + "fill 0 0 3 4 3 4 6 5 6 9 -1 7; fill 1 1 99 -99 0 99 -99 7 100; fill 2 2 5 6 7;"
+    private static final String RICH = "group 0 2; relation 0 6 0 0; relation 0 0 4 0; group 1 1; relation 1 8 0 0; "
+        + "group 2 3; relation 2 2 0 0; relation 2 0 3 0; relation 2 0 0 5; relation 2 2 3 5; group 4 1; group 5 2; "
+        + "map 0 1 1; entry 0 0 0 2; map 1 0 1; entry 1 0 0 4; entry 1 1 0 2; map 2 1 0; entry 2 0 0 1; entry 2 0 1 1; keep; "
+        + "map 3 4 5; entry 3 0 0 1; entry 3 0 1 2; map 4 5 4; entry 4 0 0 2; entry 4 1 0 -1; map 5 5 5; map 6 4 4; move 0 0; "
+        + "move 1 -2; move 2 3; move 3 5; fill 0 0 3 4 3 4 6 5 6 9 -1 7; fill 1 1 99 -99 0 99 -99 7 100; fill 2 2 5 6 7; "
         + "lay 0 0 7 -5 3; lay 1 4 999 0 0; hold 2 1;";
 
     private static int refusals = 0;
@@ -303,7 +302,8 @@ public final class RefusalTest {
         refused("NONE", "connected 0 1 0 0 0 0", "connected 0 2 0 0 0 0", "connected 0 3 1000 0 0 9");
         badElement("connected 0 0 ### 0");
         bad(each("connected 0 0 0 0 0 #", "-1", "1", "MIN", "MAX"));
-        Calls.sentence("Refused as told: as of diagram(); STATE: it is not RIGHT; BAD: a, b, c, k; NONE: it is not of the KERNEL of r.");
+        Calls.sentence("Refused as told: as of diagram(); STATE: it is not RIGHT; BAD: a, b, c, k; "
+            + "NONE: it is not of the KERNEL of r.");
         String wrong = "entry 6 0 0 1;";
         refusedBehind(wrong, "STATE", "connected 0 0 0 0 0 0", "connected 0 0 1000 0 0 0", "connected 0 0 0 0 0 1");
         refusedBehind(wrong, "NONE", "connected 0 1 0 0 0 0");
@@ -379,7 +379,7 @@ public final class RefusalTest {
         bad("taken 3 6", "taken 2 9");
         refused("MISSING", "taken 3 0", "taken 3 12");
         refused("UNLIKE", "taken 0 1", "taken 0 10", "taken 1 0", "taken 2 0", "taken 2 10", "taken 2 12");
-        String great = "add 1 1; add 1 1; add 1 1; add 1 1; add 1 1; add 1 1; add 1 1; add 1 1; add 1 1; add 1 1; add 1 1;"
+        String great = "add 1 1; add 1 1; add 1 1; add 1 1; add 1 1; add 1 1; add 1 1; add 1 1; add 1 1; add 1 1; add 1 1; "
             + "add 1 1; add 1 1; add 1 1; add 1 1; add 1 1; add 1 1; add 1 1; add 1 1;";
         refusedBehind(great, "GREAT", "add 1 1");
     }
@@ -406,10 +406,13 @@ public final class RefusalTest {
         calls.then("entry 6 0 0 1; connected 0 0 0 0 0 0 = -4000000000000000004");
         calls.then("stop 2; move 1 9; move 1 9; move 1 9; move 1 9; move 1 9; move 1 9; move 1 9; move 1 9");
         calls.then("run 4 999 0 0 0 = -4000000000000000016");
-        Calls.sentence("of several the first named: BAD (-1) there is no such thing, or a number is not as told; FULL (-2); NONE (-3); STATE (-4)");
+        Calls.sentence("of several the first named: BAD (-1) there is no such thing, or a number is not as told; FULL (-2); "
+            + "NONE (-3); STATE (-4)");
         calls.then("group 6 0 = -1; relation 2 0 0 0 = -2; part 0 1 1 = -3; exact 3 3 = -4; text 0 '9999' = -101");
-        Calls.sentence("-11 nothing where something is asked, -12 a place outside, -13 a thing of another sort or kind, -14 a size below 0, -16 a number is too great.");
-        calls.then("item 3 0 0 = -11; item 0 0 10 = -12; item 0 1 0 = -13; sheet 0 0 -1 = -14; entry 6 0 0 9; text 0 '9(9g)' = -16");
+        Calls.sentence("-11 nothing where something is asked, -12 a place outside, -13 a thing of another sort or kind, -14 "
+            + "a size below 0, -16 a number is too great.");
+        calls.then("item 3 0 0 = -11; item 0 0 10 = -12; item 0 1 0 = -13; sheet 0 0 -1 = -14; entry 6 0 0 9; "
+            + "text 0 '9(9g)' = -16");
         Calls.sentence("public static final int BAD = -1, FULL = -2, NONE = -3, STATE = -4;");
         Calls.due("BAD", GroupsByRelations.BAD, -1);
         Calls.due("FULL", GroupsByRelations.FULL, -2);

@@ -67,6 +67,15 @@ final class Calls {
         return new Calls().then(line);
     }
 
+    /** The line, with a number for each sign #. */
+    static Calls playWith(int number, String line) {
+        return new Calls().thenWith(number, line);
+    }
+
+    Calls thenWith(int number, String line) {
+        return then(line.replace("#", "" + number));
+    }
+
     Calls then(String line) {
         for (String call : line.split(";")) {
             String[] sides = call.split("=");
